@@ -104,6 +104,8 @@ public final class ReaderTest {
         for (int c = 0; c < 6; c++) {
             new Probe("reset by " + c).paint(0, 0, M + M + M + Probe.clockless(254)).run(2, 0).look(6, 1).command(c).look(6, 0)
                 .run(1, 0).look(6, 1).run(1, 0).look(6, 0);
+            new Probe("marks are forgotten by " + c).paint(0, 0, M + M + M + Probe.clockless(254)).run(1, 0).command(c)
+                .run(2, 0).look(6, 1).run(1, 0).look(6, 0);
             new Probe("a field ends by " + c).paint(0, 0, M + M + M + Probe.clockless(254)).run(6, 0).look(6, 1).command(c)
                 .look(6, 0).run(1, 0).look(6, 0);
         }

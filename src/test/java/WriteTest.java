@@ -81,6 +81,10 @@ public final class WriteTest {
         for (int i = 0; i < 16; i++) {
             p.cells(0, 28 + i, Probe.encoded(i == 0 ? 1 : i & 1, i + 1));
         }
+        // It ends with the last cell of the 78, and not before it.
+        sector("the last cell", 0).spoil(0, 47 * 16 - 1, true).spoil(0, 47 * 16, true).command(3).serve(47, 16).status(0)
+            .cells(0, 46, Probe.encoded(Probe.checkOf(new int[] {251, 0, 0, 0, 0, 0, 0, 0, 0, 0, 0, 0, 0, 0, 0, 0, 0}) & 1, 78))
+            .cells(0, 47, 32768);
         // The byte is DATA as it is when its first cell is written.
         sector("DATA at that time", 0).command(3).run(10, 0).give(1).run(18, 0).give(200).run(1, 0).cells(0, 28, Probe.encoded(1, 200));
     }
@@ -153,6 +157,9 @@ public final class WriteTest {
     private static void readBack() {
         sector("read back", 0).fill(201, 5).fill(245, 6).fill(0, 5).command(3).serve(150, 16).status(0).clear().command(2).serve(150, 16)
             .status(0).buffer(0, 201).buffer(5, 245).buffer(10, 245).buffer(11, 0);
+        sector("written twice", 0).fill(3, 16).fill(4, 16).command(3).serve(150, 16).status(0).command(3).serve(150, 16).status(0)
+            .cells(0, 27, Probe.encoded(1, 251)).cells(0, 28, Probe.encoded(1, 4)).cells(0, 43, Probe.encoded(0, 4)).clear().command(2)
+            .serve(150, 16).status(0).buffer(0, 4);
         sector("read back deleted", 1).fill(7, 32).command(3, true, true).serve(150, 32).status(0).clear().command(2).serve(150, 32)
             .status(32).buffer(31, 7);
     }
