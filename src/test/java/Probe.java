@@ -163,6 +163,17 @@ final class Probe {
         return this;
     }
 
+    /** Turns cells over until word k of track t, which is the one, is the other. */
+    Probe repaint(int t, int k, int one, int other) {
+        cells(t, k, one);
+        for (int i = 0; i < 16; i++) {
+            if (((one ^ other) >> 15 - i & 1) == 1) {
+                spoil(t, 16 * k + i, true);
+            }
+        }
+        return cells(t, k, other);
+    }
+
     static final String MARK = "0100010010001001";
 
     /** The bytes as cells whose clocks are all missing: that is enough for a field. */
