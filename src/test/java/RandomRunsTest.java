@@ -137,6 +137,9 @@ public final class RandomRunsTest {
             case 14:
                 return random.nextInt(3) != 0 || protect(random.nextInt(4) == 0);
             default:
+                if (random.nextInt(6) == 0) {
+                    return paintField();
+                }
                 return random.nextInt(3) != 0 || spoil(random.nextInt(16) == 0 ? random.nextInt(6) - 1 : 0);
         }
     }
@@ -156,8 +159,37 @@ public final class RandomRunsTest {
     }
 
     private boolean spoil(int t) {
-        int k = random.nextInt(2404) - 2;
+        return spoilAt(t, random.nextInt(2404) - 2);
+    }
+
+    private boolean spoilAt(int t, int k) {
         return compare("spoil(" + t + ", " + k + ")", one(desk.spoil(t, k)), one(model.spoil(t, k)));
+    }
+
+    /** Turns cells over as a field has them, from a little before the head on and mostly off the bytes' places. */
+    private boolean paintField() {
+        boolean isId = random.nextInt(3) != 0;
+        boolean isRight = random.nextInt(4) != 0;
+        int[] bytes = isId ? new int[] {254, 0, 0, 1 + random.nextInt(3), random.nextInt(2)} : new int[17];
+        if (!isId) {
+            bytes[0] = random.nextBoolean() ? 251 : 248;
+            bytes[1 + random.nextInt(16)] = random.nextInt(256);
+        }
+        String cells = Probe.field(isRight, bytes);
+        if (calls + cells.length() > MOST_CALLS - 60) {
+            return true;
+        }
+        int t = model.look(4);
+        int start = model.look(5) + random.nextInt(400) - 40;
+        boolean isSound = true;
+        for (int i = 0; isSound && i < cells.length(); i++) {
+            int k = Math.floorMod(start + i, 2400);
+            boolean isOne = (model.cells(t, k / 16) >> 15 - k % 16 & 1) == 1;
+            if (isOne != (cells.charAt(i) == '1')) {
+                isSound = spoilAt(t, k);
+            }
+        }
+        return isSound;
     }
 
     private boolean lookAround() {

@@ -220,6 +220,12 @@ public final class RefusedCallsTest {
             layTrack(d, 0);
             d.run(10);
         });
+        state("half a mark is read", 0, d -> {
+            for (int cell : new int[] {1, 5, 8, 12, 15}) {
+                d.spoil(0, 8 + cell);
+            }
+            d.run(1);
+        });
         state("within a long field", 0, d -> {
             begin(d, 1, 4, false, 18);
             d.run(30);
