@@ -13,10 +13,12 @@ public final class FaceTest {
         "int run(int)", "int serve(int)", "void clear()", "boolean fill(int, int)", "int buffer(int)",
         "void protect(boolean)", "boolean spoil(int, int)", "int cells(int, int)", "int look(int)");
 
-    public static void main(String[] args) {
+    public static void main(String[] args) throws NoSuchFieldException {
         int mods = FloppyDesk.class.getModifiers();
         Probe.due("FloppyDesk is public and final", Modifier.isPublic(mods) && Modifier.isFinal(mods) ? 1 : 0, 1);
         Probe.due("NONE", FloppyDesk.NONE, -1);
+        int none = FloppyDesk.class.getDeclaredField("NONE").getModifiers();
+        Probe.due("NONE is public static final", none, Modifier.PUBLIC | Modifier.STATIC | Modifier.FINAL);
         sameTexts("the methods", seenMethods(), new TreeSet<>(METHODS));
         sameTexts("the fields", seenFields(), new TreeSet<>(List.of("NONE")));
         Constructor<?>[] made = FloppyDesk.class.getDeclaredConstructors();
@@ -39,6 +41,7 @@ public final class FaceTest {
             if (!Modifier.isPrivate(m.getModifiers()) && !m.isSynthetic()) {
                 String types = Arrays.toString(m.getParameterTypes()).replace("[", "(").replace("]", ")");
                 seen.add(m.getReturnType() + " " + m.getName() + types);
+                Probe.due(m + " is public, and not static", m.getModifiers(), Modifier.PUBLIC);
             }
         }
         return seen;

@@ -77,10 +77,11 @@ public final class RandomRunsTest {
         int left = 150;
         while (isSound && left > 60) {
             int size = random.nextInt(4) == 0 ? 32 : 16;
-            int gap = 4 + random.nextInt(random.nextInt(4) == 0 ? 30 : 9);
+            // A count of 0 is refused, and then there is no gap.
+            int gap = random.nextInt(random.nextInt(4) == 0 ? 34 : 13);
             isSound = fill(78, gap) && fill(0, 2) && fill(245, random.nextInt(8) == 0 ? 2 : 3) && fill(254, 1)
                 && fill(random.nextInt(5) / 4, 2) && fill(1 + random.nextInt(3), 1) && fill(size / 16 - 1, 1)
-                && fill(random.nextInt(8) == 0 ? 99 : 247, 1) && fill(78, 6 + random.nextInt(20)) && fill(0, 2)
+                && fill(random.nextInt(8) == 0 ? 99 : 247, 1) && fill(78, random.nextInt(26)) && fill(0, random.nextInt(3))
                 && fill(245, 3) && fill(random.nextInt(4) == 0 ? 248 : 251, 1) && fill(random.nextInt(256), size)
                 && fill(247, 1) && fill(78, 2);
             left -= 60;
